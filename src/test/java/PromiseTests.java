@@ -162,6 +162,9 @@ public final class PromiseTests {
         check.due("edges()", 1, () -> barn.edges());
         check.due("core(1)", 1, () -> barn.core(1));
         village("part(6, 7) a tail", 1, x -> x.part(6, 7));
+        village("part(4, 5) in a triangle", 3, x -> x.part(4, 5));
+        check.due("part(5, 0) beside a node that a greater core holds", 1,
+                () -> joined(6, 0, 1, 0, 2, 0, 3, 1, 2, 1, 3, 2, 3, 4, 0, 4, 1, 5, 4, 5, 0).part(5, 0));
         village("part(3, 4) a bridge", 0, x -> x.part(3, 4));
         refused("part(11, 0)", NO_INDEX, x -> x.part(11, 0));
         refused("part(0, 11)", NO_INDEX, x -> x.part(0, 11));
@@ -185,6 +188,12 @@ public final class PromiseTests {
         check.due("areJoined(3, 4)", false, () -> barn.areJoined(3, 4));
         check.due("isolate(4) again", 0, () -> barn.isolate(4));
         check.due("join(4, 3) once more", 1, () -> barn.join(4, 3));
+        Corebarn whole = complete(20);
+        check.due("isolate(7) of the greatest network", 19, () -> whole.isolate(7));
+        check.due("edges() behind it", 171, () -> whole.edges());
+        check.due("degeneracy() behind it", 18, () -> whole.degeneracy());
+        check.due("degree(0) behind it", 18, () -> whole.degree(0));
+        check.due("degree(19) behind it", 18, () -> whole.degree(19));
         refused("isolate(11)", NO_INDEX, x -> x.isolate(11));
         refused("isolate(-1)", NO_INDEX, x -> x.isolate(-1));
         refused("isolate(MAX)", NO_INDEX, x -> x.isolate(MAX));
