@@ -54,7 +54,7 @@ public final class ModelRuns {
     }
 
     private int level() {
-        return random.nextInt(12) == 0 ? odd() : random.nextInt(8);
+        return random.nextInt(12) == 0 ? odd() : random.nextInt(random.nextBoolean() ? 8 : 22);
     }
 
     private void due(String call, java.util.function.Supplier<Object> want,

@@ -1,16 +1,5 @@
-import java.util.function.Function;
-
 /** For each promise of the document its ordinary inputs, its edges and its wrong inputs. */
-public final class PromiseTests {
-    private static final String NO_INDEX = "throws.IndexOutOfBoundsException";
-    private static final String NO_ARGUMENT = "throws.IllegalArgumentException";
-    private static final String NO_STATE = "throws.IllegalStateException";
-    private static final String NO_ELEMENT = "throws.NoSuchElementException";
-    private static final int MIN = Integer.MIN_VALUE;
-    private static final int MAX = Integer.MAX_VALUE;
-
-    private final Check check = new Check();
-
+public final class PromiseTests extends Fixture {
     public static void main(String[] args) {
         PromiseTests tests = new PromiseTests();
         tests.promise1NewObject();
@@ -40,37 +29,6 @@ public final class PromiseTests {
         tests.check.close("PromiseTests");
     }
 
-    private static Corebarn nodes(int count) {
-        Corebarn barn = new Corebarn();
-        for (int i = 0; i < count; i++) {
-            barn.addNode();
-        }
-        return barn;
-    }
-
-    private static Corebarn joined(int count, int... ends) {
-        Corebarn barn = nodes(count);
-        for (int i = 0; i + 1 < ends.length; i += 2) {
-            barn.join(ends[i], ends[i + 1]);
-        }
-        return barn;
-    }
-
-    private static Corebarn complete(int count) {
-        Corebarn barn = nodes(count);
-        for (int one = 0; one < count; one++) {
-            for (int other = one + 1; other < count; other++) {
-                barn.join(one, other);
-            }
-        }
-        return barn;
-    }
-
-    /** Four nodes all joined, a bridge 3-4, a triangle 4 5 6, a tail 7, a lone 8, a pair 9-10. */
-    private static Corebarn village() {
-        return joined(11, 0, 1, 0, 2, 0, 3, 1, 2, 1, 3, 2, 3, 3, 4, 4, 5, 4, 6, 5, 6, 6, 7, 9, 10);
-    }
-
     private static String state(Corebarn barn) {
         StringBuilder text = new StringBuilder();
         text.append(barn.nodes()).append(' ').append(barn.edges()).append(' ').append(barn.changes());
@@ -81,17 +39,6 @@ public final class PromiseTests {
             }
         }
         return text.toString();
-    }
-
-    /** The call on a village throws what is due and changes nothing. */
-    private void refused(String call, String want, Function<Corebarn, Object> action) {
-        Corebarn barn = village();
-        check.due(call, want, () -> action.apply(barn));
-        check.due("the state behind " + call, state(village()), () -> state(barn));
-    }
-
-    private void village(String call, Object want, Function<Corebarn, Object> action) {
-        check.due(call, want, () -> action.apply(village()));
     }
 
     private void promise1NewObject() {
@@ -302,7 +249,7 @@ public final class PromiseTests {
         village("community(9, 1)", 2, x -> x.community(9, 1));
         village("community(0, MAX)", 0, x -> x.community(0, MAX));
         check.due("community(1, 3) of two houses", 4, () -> twoHouses().community(1, 3));
-        check.due("community(0, 1) of the longest way", 20, () -> longWay().community(0, 1));
+        check.due("community(0, 1) of the longest way", 20, () -> way(20).community(0, 1));
         refused("community(11, 0)", NO_INDEX, x -> x.community(11, 0));
         refused("community(-1, -1) no node first", NO_INDEX, x -> x.community(-1, -1));
         refused("community(0, -1)", NO_ARGUMENT, x -> x.community(0, -1));
@@ -319,20 +266,6 @@ public final class PromiseTests {
         check.due("communities(2) of two houses", 1, () -> twoHouses().communities(2));
         check.due("communities(0) without edges", 20, () -> nodes(20).communities(0));
         refused("communities(-1)", NO_ARGUMENT, x -> x.communities(-1));
-    }
-
-    /** All joined: 0 to 3, and 4 to 7; the only way between them is 0-8-4, at a lower level. */
-    private static Corebarn twoHouses() {
-        return joined(9, 0, 1, 0, 2, 0, 3, 1, 2, 1, 3, 2, 3,
-                4, 5, 4, 6, 4, 7, 5, 6, 5, 7, 6, 7, 0, 8, 8, 4);
-    }
-
-    private static Corebarn longWay() {
-        Corebarn barn = nodes(20);
-        for (int node = 1; node < 20; node++) {
-            barn.join(node - 1, node);
-        }
-        return barn;
     }
 
     private void promise17Together() {
