@@ -11,38 +11,41 @@ public final class FaceTests {
     private static final String INDEX = " throws IndexOutOfBoundsException";
     private static final String ARGUMENT = " throws IllegalArgumentException";
     private static final Set<String> FACE = Set.of(
-            "int addNode() throws IllegalStateException",
-            "int join(int, int)" + INDEX + " IllegalArgumentException IllegalStateException",
-            "int part(int, int)" + INDEX + " IllegalArgumentException NoSuchElementException",
-            "int isolate(int)" + INDEX,
-            "int nodes()",
-            "int edges()",
-            "int degree(int)" + INDEX,
-            "int neighbour(int, int)" + INDEX,
-            "boolean areJoined(int, int)" + INDEX,
-            "int core(int)" + INDEX,
-            "int degeneracy()",
-            "int coreSize(int)" + ARGUMENT,
-            "int changes()",
-            "int community(int, int)" + INDEX + " IllegalArgumentException",
-            "int communities(int)" + ARGUMENT,
-            "int together(int, int)" + INDEX + " NoSuchElementException",
-            "int hierarchy()",
-            "int peeled(int)" + INDEX,
-            "int denseSize()",
-            "boolean isDense(int)" + INDEX,
-            "double density()",
-            "int support(int, int)" + INDEX + " NoSuchElementException",
-            "int triangles()",
-            "int truss(int, int)" + INDEX + " NoSuchElementException",
-            "int trussSize(int)" + ARGUMENT);
+            "public int addNode() throws IllegalStateException",
+            "public int join(int, int)" + INDEX + " IllegalArgumentException IllegalStateException",
+            "public int part(int, int)" + INDEX + " IllegalArgumentException NoSuchElementException",
+            "public int isolate(int)" + INDEX,
+            "public int nodes()",
+            "public int edges()",
+            "public int degree(int)" + INDEX,
+            "public int neighbour(int, int)" + INDEX,
+            "public boolean areJoined(int, int)" + INDEX,
+            "public int core(int)" + INDEX,
+            "public int degeneracy()",
+            "public int coreSize(int)" + ARGUMENT,
+            "public int changes()",
+            "public int community(int, int)" + INDEX + " IllegalArgumentException",
+            "public int communities(int)" + ARGUMENT,
+            "public int together(int, int)" + INDEX + " NoSuchElementException",
+            "public int hierarchy()",
+            "public int peeled(int)" + INDEX,
+            "public int denseSize()",
+            "public boolean isDense(int)" + INDEX,
+            "public double density()",
+            "public int support(int, int)" + INDEX + " NoSuchElementException",
+            "public int triangles()",
+            "public int truss(int, int)" + INDEX + " NoSuchElementException",
+            "public int trussSize(int)" + ARGUMENT);
 
     public static void main(String[] args) {
         Check check = new Check();
         check.due("the class's modifiers", Modifier.PUBLIC | Modifier.FINAL,
                 () -> Corebarn.class.getModifiers());
+        check.due("the class above", Object.class, () -> Corebarn.class.getSuperclass());
+        check.due("the interfaces", 0, () -> Corebarn.class.getInterfaces().length);
+        check.due("the package", "", () -> Corebarn.class.getPackageName());
         check.due("the methods that are not private", new TreeSet<>(FACE), () -> openMethods());
-        check.due("the constructors", Set.of("Corebarn()"), () -> constructors());
+        check.due("the constructors", Set.of("public Corebarn()"), () -> constructors());
         check.due("the fields that are not private", Set.of(), () -> openFields());
         check.due("private methods with a public name", Set.of(), () -> doubleNames());
         check.close("FaceTests");
@@ -52,7 +55,8 @@ public final class FaceTests {
         Set<String> found = new TreeSet<>();
         for (Method method : Corebarn.class.getDeclaredMethods()) {
             if (!Modifier.isPrivate(method.getModifiers())) {
-                found.add(method.getReturnType() + " " + method.getName() + signature(method));
+                found.add(Modifier.toString(method.getModifiers()) + " " + method.getReturnType()
+                        + " " + method.getName() + signature(method));
             }
         }
         return found;
@@ -61,7 +65,8 @@ public final class FaceTests {
     private static Set<String> constructors() {
         Set<String> found = new TreeSet<>();
         for (Constructor<?> constructor : Corebarn.class.getDeclaredConstructors()) {
-            found.add(constructor.getName() + signature(constructor));
+            found.add(Modifier.toString(constructor.getModifiers()) + " " + constructor.getName()
+                    + signature(constructor));
         }
         return found;
     }
